@@ -127,8 +127,7 @@ public final class TypeFoundry {
         if (k == NONE) {
             return ofWholeOutline(found, what);
         }
-        gathered.start();
-        gathered.gather(found, blend, 0);
+        gathered.become(found, blend);
         return gathered.ofPoint(k, what);
     }
 
@@ -141,8 +140,7 @@ public final class TypeFoundry {
         if (found == null || !isSide(side)) {
             throw new IllegalArgumentException("no such glyph or side");
         }
-        gathered.start();
-        gathered.gather(found, blend, 0);
+        gathered.become(found, blend);
         canvas.start(side);
         for (int contour = 0; contour < gathered.contours; contour++) {
             path.follow(gathered, contour);
@@ -229,7 +227,7 @@ public final class TypeFoundry {
         switch (what) {
             case 0: return glyph.outlinePoints();
             case 1: return glyph.outlineContours();
-            case 2: return blend.valueAt(glyph.widths, 0);
+            case 2: return blend.valueOf(glyph.widths, 0);
             default: return glyph.depth;
         }
     }
@@ -247,7 +245,7 @@ public final class TypeFoundry {
 
     private int widthOf(int number) {
         Glyph found = find(number);
-        return found == null ? 0 : blend.valueAt(found.widths, 0);
+        return found == null ? 0 : blend.valueOf(found.widths, 0);
     }
 
     private static boolean isPlace(int x, int y) {
@@ -294,8 +292,8 @@ public final class TypeFoundry {
             this.v = v;
         }
 
-        /** The value whose masters stand side by side in the row, from a place on. */
-        int valueAt(int[] values, int from) {
+        int valueOf(int[] values, int number) {
+            int from = number * masters;
             if (masters == 1) {
                 return values[from];
             }
@@ -314,9 +312,12 @@ public final class TypeFoundry {
     }
 
     private static final class Glyph {
+        // What has a value in each master has them side by side, as Blend takes them.
+        final int[] xs;
+        final int[] ys;
+        final int[] widths;
         final boolean[] on = new boolean[MOST_POINTS];
         final int[] ends = new int[MOST_POINTS / LEAST_POINTS_OF_CONTOUR];
-        final int[] widths;
         final Part[] parts = new Part[MOST_PARTS];
         int points;
         int contours;
@@ -324,8 +325,6 @@ public final class TypeFoundry {
         int depth;
         boolean locked;
         private final int masters;
-        private final int[] xs;
-        private final int[] ys;
         private int closedPoints;
         // A part is locked, so what it brings to the outline never changes and is summed up once.
         private int partPoints;
@@ -333,9 +332,9 @@ public final class TypeFoundry {
 
         Glyph(int masters) {
             this.masters = masters;
-            widths = new int[masters];
             xs = new int[MOST_POINTS * masters];
             ys = new int[MOST_POINTS * masters];
+            widths = new int[masters];
         }
 
         int addPoint(int x, int y, boolean isOn) {
@@ -383,14 +382,6 @@ public final class TypeFoundry {
         int outlineContours() {
             return contours + partContours;
         }
-
-        int xIn(Blend blend, int point) {
-            return blend.valueAt(xs, point * masters);
-        }
-
-        int yIn(Blend blend, int point) {
-            return blend.valueAt(ys, point * masters);
-        }
     }
 
     /** A component: another glyph, turned and shifted. */
@@ -423,12 +414,22 @@ public final class TypeFoundry {
         private final int[] contourOf = new int[MOST_OUTLINE_POINTS];
         private int points;
 
-        void start() {
+        void become(Glyph glyph, Blend blend) {
             points = 0;
             contours = 0;
+            gather(glyph, blend, 0);
         }
 
-        void gather(Glyph glyph, Blend blend, int level) {
+        int ofPoint(int k, int what) {
+            switch (what) {
+                case 0: return xs[k];
+                case 1: return ys[k];
+                case 2: return on[k] ? 1 : 0;
+                default: return contourOf[k];
+            }
+        }
+
+        private void gather(Glyph glyph, Blend blend, int level) {
             if (glyph == null || level > MOST_DEPTH) {
                 return;
             }
@@ -444,21 +445,12 @@ public final class TypeFoundry {
             }
         }
 
-        int ofPoint(int k, int what) {
-            switch (what) {
-                case 0: return xs[k];
-                case 1: return ys[k];
-                case 2: return on[k] ? 1 : 0;
-                default: return contourOf[k];
-            }
-        }
-
         private void addContours(Glyph glyph, Blend blend) {
             int point = 0;
             for (int c = 0; c < glyph.contours; c++) {
                 for (; point < glyph.ends[c]; point++) {
-                    xs[points] = glyph.xIn(blend, point);
-                    ys[points] = glyph.yIn(blend, point);
+                    xs[points] = blend.valueOf(glyph.xs, point);
+                    ys[points] = blend.valueOf(glyph.ys, point);
                     on[points] = glyph.on[point];
                     contourOf[points] = contours;
                     points++;

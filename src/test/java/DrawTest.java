@@ -9,12 +9,17 @@ public final class DrawTest {
         promise11Ways();
         promise11Halves();
         promise11Outside();
+        promise11Slopes();
+        promise11SlopesAtTheEdges();
         promise11CutInYFirst();
         promise11Quadratics();
+        promise11QuadraticElsewhere();
+        promise11FortyOff();
         promise11Instance();
         promise11FittedByOneHeight();
         promise11FittedBetween();
         promise11FittedCorners();
+        promise11FittedByEightHeights();
         promise12Pixel();
         CHECK.end();
     }
@@ -108,6 +113,48 @@ public final class DrawTest {
         CHECK.due("11: over the other corner", x.draw(back, 32, false), 255 + 64 + 64 + 16);
     }
 
+    /** Lines that pass four pixels, whichever way they lean: 8 of 32 rise in each. */
+    private static void promise11Slopes() {
+        int[] due = {grey(2 * 896), grey(2 * 640), grey(2 * 384), grey(2 * 128)};
+        TypeFoundry x = new TypeFoundry(1);
+        int right = Shapes.polygon(x, 0, 0, 128, 32, 0, 32);
+        int left = Shapes.polygon(x, 0, 0, 128, 0, 0, 32);
+        int steepRight = Shapes.polygon(x, 0, 0, 32, 128, 0, 128);
+        int steepLeft = Shapes.polygon(x, 0, 0, 32, 0, 0, 128);
+        x.draw(right, 32, false);
+        pixelsInX(x, "11: leans right", due);
+        x.draw(left, 32, false);
+        pixelsInX(x, "11: leans left", due);
+        x.draw(steepLeft, 32, false);
+        for (int j = 0; j < 4; j++) {
+            CHECK.due("11: steep, leans left", x.pixel(0, j), due[j]);
+        }
+        x.draw(steepRight, 32, false);
+        for (int j = 0; j < 4; j++) {
+            CHECK.due("11: steep, leans right", x.pixel(0, j), due[3 - j]);
+        }
+    }
+
+    private static void pixelsInX(TypeFoundry x, String what, int[] due) {
+        for (int i = 0; i < due.length; i++) {
+            CHECK.due(what, x.pixel(i, 0), due[i]);
+        }
+    }
+
+    private static void promise11SlopesAtTheEdges() {
+        TypeFoundry x = new TypeFoundry(1);
+        int left = Shapes.polygon(x, -32, 0, 32, 32, -32, 32);
+        CHECK.due("11: over x 0", x.draw(left, 32, false), grey(2 * 16 * 16));
+        int right = Shapes.polygon(x, 2016, 0, 2080, 32, 2016, 32);
+        CHECK.due("11: over x 2048", x.draw(right, 32, false), grey(2 * (16 * 16 + 16 * 32)));
+        CHECK.due("11: in the last pixel", x.pixel(63, 0), grey(2 * (16 * 16 + 16 * 32)));
+        int below = Shapes.polygon(x, 0, -32, 32, -32, 32, 0, 0, 32);
+        CHECK.due("11: over y 0", x.draw(below, 32, false), grey(2 * 32 * 16));
+        int above = Shapes.polygon(x, 0, 2016, 64, 2080, 0, 2080);
+        CHECK.due("11: over y 2048", x.draw(above, 32, false), grey(2 * 32 * 16));
+        CHECK.due("11: in the last row", x.pixel(0, 63), grey(2 * 32 * 16));
+    }
+
     /**
      * The line from (0, 0) to (39, 64) is cut at (19.5, 32), that is (20, 32). The part from there to (39, 64) is at x 32
      * at y 52.2, that is 52; the whole line would be there at 52.5, that is 53.
@@ -161,6 +208,48 @@ public final class DrawTest {
         CHECK.due("11: so (1, 0)", x.pixel(1, 0), greys[1]);
         CHECK.due("11: so (1, 1)", x.pixel(1, 1), greys[2]);
         CHECK.due("11: so (2, 1)", x.pixel(2, 1), greys[3]);
+    }
+
+    private static void promise11QuadraticElsewhere() {
+        TypeFoundry x = new TypeFoundry(1);
+        int[] xs = {0, 64, 64, 0};
+        int[] ys = {0, 0, 64, 64};
+        int want = 0;
+        for (int from = 0; from < 4; from++) {
+            int a = x.glyph();
+            int shift = from == 0 ? 0 : 128;
+            for (int i = from; i < from + 4; i++) {
+                x.point(a, xs[i % 4] + shift, ys[i % 4] + shift, i % 4 != 1);
+            }
+            x.close(a);
+            int sum = x.draw(a, 64, false);
+            if (from == 0) {
+                want = sum;
+            }
+            CHECK.due("11: told from point " + from + " on", sum, want);
+            CHECK.due("11: its pixel", x.pixel(shift / 64, shift / 64), want);
+        }
+    }
+
+    private static void promise11FortyOff() {
+        TypeFoundry x = new TypeFoundry(1);
+        int a = x.glyph();
+        for (int i = 0; i < 40; i++) {
+            x.point(a, i < 20 ? 100 * i : 1900, i < 20 ? 0 : 100 * (i - 20), false);
+        }
+        x.close(a);
+        int b = x.glyph();
+        for (int i = 0; i < 3; i++) {
+            x.component(b, a, 0, 0, 0);
+        }
+        x.draw(a, 256, false);
+        CHECK.due("11: 40 points off the outline", x.pixel(4, 1), 255);
+        CHECK.due("11: to the left of them", x.pixel(1, 6), 0);
+        x.draw(b, 256, false);
+        CHECK.due("11: 120 points off the outline", x.pixel(4, 1), 255);
+        int sum = x.draw(a, 32, false);
+        x.height(0);
+        CHECK.due("11: 0 is its own goal", x.draw(a, 32, true), sum);
     }
 
     private static void promise11Instance() {
@@ -240,6 +329,21 @@ public final class DrawTest {
         CHECK.due("11: (0, 1)", x.pixel(0, 1), greys[2]);
         CHECK.due("11: (1, 1)", x.pixel(1, 1), greys[3]);
         CHECK.due("11: (1, 2)", x.pixel(1, 2), greys[4]);
+    }
+
+    private static void promise11FittedByEightHeights() {
+        TypeFoundry x = new TypeFoundry(1);
+        for (int i = 8; i > 0; i--) {
+            x.height(40 * i);
+        }
+        // The goals in 32: 32, 96, 128, 160, 192, 256, 288, 320. Above 320 nothing is moved, 300 becomes 304.
+        int above = Shapes.polygon(x, 0, 320, 32, 320, 32, 330, 0, 330);
+        x.draw(above, 32, true);
+        CHECK.due("11: above the eighth", x.pixel(0, 10), grey(2 * 32 * 10));
+        int between = Shapes.polygon(x, 0, 300, 32, 300, 32, 320, 0, 320);
+        CHECK.due("11: below the eighth", x.draw(between, 32, true), grey(2 * 32 * 16));
+        int below = Shapes.polygon(x, 0, 0, 32, 0, 32, 60, 0, 60);
+        CHECK.due("11: 0 becomes -8 and 60 becomes 64", x.draw(below, 32, true), 2 * 255);
     }
 
     private static void promise12Pixel() {

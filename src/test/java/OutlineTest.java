@@ -13,6 +13,8 @@ public final class OutlineTest {
         promise9RoundedBeforeTurned();
         promise9TurnsInTurns();
         promise9Contours();
+        promise9MostContours();
+        promise9FourDeep();
         CHECK.end();
     }
 
@@ -169,5 +171,45 @@ public final class OutlineTest {
         CHECK.due("9: each contour is told backwards for itself", x.outline(b, 3, 0), -50);
         CHECK.due("9: the second one, too", x.outline(b, 6, 0), -8);
         CHECK.due("9: in the middle", x.outline(b, 7, 0), -7);
+    }
+
+    private static void promise9MostContours() {
+        TypeFoundry x = new TypeFoundry(1);
+        int a = ofContours(x, 13);
+        int one = ofContours(x, 1);
+        int b = ofContours(x, 13);
+        for (int i = 0; i < 3; i++) {
+            x.component(b, a, 0, 0, 4 + i);
+        }
+        x.component(b, one, 0, 0, 7);
+        CHECK.due("9: 13 contours of its own and 40", x.outline(b, -1, 1), 53);
+        CHECK.due("9: 159 points", x.outline(b, -1, 0), 159);
+        CHECK.due("9: the last one", x.outline(b, 158, 3), 52);
+        CHECK.due("9: told backwards", x.outline(b, 156, 0), 30);
+    }
+
+    private static int ofContours(TypeFoundry x, int contours) {
+        int glyph = x.glyph();
+        for (int i = 0; i < contours; i++) {
+            Shapes.contour(x, glyph, true, i, 10, i, 20, i, 30);
+        }
+        return glyph;
+    }
+
+    private static void promise9FourDeep() {
+        TypeFoundry x = new TypeFoundry(1);
+        int a = Shapes.polygon(x, 1, 2, 30, 4, 50, 60);
+        for (int i = 0; i < 4; i++) {
+            x.glyph();
+            x.component(a + i + 1, a + i, 1000, 100, 1);
+            Shapes.contour(x, a + i + 1, true, i, i, i, i, i, i);
+        }
+        CHECK.due("9: points of all", x.outline(4, -1, 0), 15);
+        CHECK.due("9: its own first", x.outline(4, 0, 0), 3);
+        CHECK.due("9: the deepest last", x.outline(4, 12, 3), 4);
+        // (1, 2), (998, 101), (899, 1098), (-98, 999), (1, 2)
+        CHECK.due("9: four times turned x", x.outline(4, 12, 0), 1);
+        CHECK.due("9: four times turned y", x.outline(4, 12, 1), 2);
+        CHECK.due("9: three times turned x", x.outline(3, 9, 0), -98);
     }
 }

@@ -15,6 +15,7 @@ public final class RowTest {
         promise18LeftToRight();
         promise18Lookups();
         promise18Anew();
+        promise18Sixty();
         promise19Shaped();
         promise19Now();
         promise19Refused();
@@ -177,6 +178,17 @@ public final class RowTest {
         CHECK.due("18: the text is empty", x.count(3), 0);
         CHECK.due("18: nothing", x.shape(), 0);
         CHECK.refused("18: no row", INDEX, () -> x.shaped(0, 0));
+    }
+
+    private static void promise18Sixty() {
+        TypeFoundry x = of(3);
+        x.rule(0, 0, told(0, 0, 0), 0, 1);
+        x.rule(7, 0, told(1, 1, 1, 1), 0, 2);
+        int[] sixty = new int[60];
+        due("18: sixty", x, sixty, 2, 2, 2, 2, 2);
+        CHECK.due("18: 20 and 5 outputs", x.count(6), 25);
+        sixty[57] = 2;
+        due("18: up to the last one", x, sixty, 2, 2, 2, 2, 1, 1, 1, 2, 0, 0);
     }
 
     private static void promise19Shaped() {
