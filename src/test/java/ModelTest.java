@@ -16,6 +16,7 @@ public final class ModelTest {
     private final String run;
     private final int wildness;
     private int glyphs = 0;
+    private int calls = 0;
 
     private ModelTest(int seed) {
         chance = new Random(seed);
@@ -48,8 +49,6 @@ public final class ModelTest {
         }
         CHECK.note(run + "the last call", answerOf(() -> real.count(0)), answerOf(() -> model.count(0)));
     }
-
-    private int calls = 1;
 
     private void same(String call, Supplier<Object> got, Supplier<Object> want) {
         calls++;
@@ -190,7 +189,8 @@ public final class ModelTest {
         } else if (kind < 16) {
             int side = from(0, 1);
             int to = chance.nextInt(3) == 0 ? from(0, 15) : chance.nextInt(3);
-            same("sort(" + side + ", " + g + ", " + to + ")", () -> real.sort(side, g, to), () -> model.sort(side, g, to));
+            same("sort(" + side + ", " + g + ", " + to + ")",
+                () -> real.sort(side, g, to), () -> model.sort(side, g, to));
         } else if (kind < 17) {
             int left = chance.nextInt(3) == 0 ? from(1, 15) : chance.nextInt(3);
             int right = chance.nextInt(3) == 0 ? from(1, 15) : chance.nextInt(3);
@@ -200,7 +200,8 @@ public final class ModelTest {
         } else if (kind < 18) {
             int right = fewGlyphs();
             int by = from(-1000, 1000);
-            same("pair(" + g + ", " + right + ", " + by + ")", () -> real.pair(g, right, by), () -> model.pair(g, right, by));
+            same("pair(" + g + ", " + right + ", " + by + ")",
+                () -> real.pair(g, right, by), () -> model.pair(g, right, by));
         } else {
             common(g);
         }
@@ -217,7 +218,8 @@ public final class ModelTest {
         long input = someRow(4);
         long after = chance.nextInt(3) == 0 ? someRow(2) : 0;
         same("rule(" + lookup + ", " + before + ", " + input + ", " + after + ", " + output + ")",
-            () -> real.rule(lookup, before, input, after, output), () -> model.rule(lookup, before, input, after, output));
+            () -> real.rule(lookup, before, input, after, output),
+            () -> model.rule(lookup, before, input, after, output));
     }
 
     private long someRow(int most) {
