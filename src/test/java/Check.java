@@ -1,3 +1,6 @@
+import java.util.function.IntFunction;
+import java.util.function.Supplier;
+
 /** Compares answers with those that are due, and ends the test with exit code 1 if one was wrong. */
 final class Check {
     private int asked = 0;
@@ -24,6 +27,25 @@ final class Check {
             got = e.getClass().getSimpleName();
         }
         note(call + " throws", got, want.getSimpleName());
+    }
+
+    /** Makes the call, whose answer must be the one that is due: a value, DONE or the name of an exception. */
+    void answer(String what, TypeFoundry foundry, Call call, Object want) {
+        note(what + ": " + call.text(), call.on(foundry), String.valueOf(want));
+    }
+
+    /**
+     * The least and the most value are taken, those next to them and those far off are not: each on a new object, so
+     * that none is refused for what another one did.
+     */
+    void bounds(String what, Supplier<TypeFoundry> made, IntFunction<Call> call, int least, int most, Object taken,
+            Object refused) {
+        for (int value : new int[] {least, most}) {
+            answer(what, made.get(), call.apply(value), taken);
+        }
+        for (int value : new int[] {least - 1, most + 1, Integer.MIN_VALUE, Integer.MAX_VALUE}) {
+            answer(what, made.get(), call.apply(value), refused);
+        }
     }
 
     void note(String call, String got, String want) {

@@ -156,8 +156,8 @@ public final class DrawTest {
     }
 
     /**
-     * The line from (0, 0) to (39, 64) is cut at (19.5, 32), that is (20, 32). The part from there to (39, 64) is at x 32
-     * at y 52.2, that is 52; the whole line would be there at 52.5, that is 53.
+     * The line from (0, 0) to (39, 64) is cut at (19.5, 32), that is (20, 32). The part from there to (39, 64) is at
+     * x 32 at y 52.2, that is 52; the whole line would be there at 52.5, that is 53.
      */
     private static void promise11CutInYFirst() {
         TypeFoundry x = new TypeFoundry(1);
@@ -179,12 +179,7 @@ public final class DrawTest {
 
     private static void promise11Quadratics() {
         TypeFoundry x = new TypeFoundry(1);
-        int a = x.glyph();
-        x.point(a, 0, 0, true);
-        x.point(a, 64, 0, false);
-        x.point(a, 64, 64, true);
-        x.point(a, 0, 64, true);
-        x.close(a);
+        int a = Shapes.roundedSquare(x);
         // (15, 1) (28, 4) (39, 9) (48, 16) (55, 25) (60, 36) (63, 49) between (0, 0) and (64, 64)
         int[] xs = {0, 15, 28, 39, 48, 55, 60, 63, 64};
         int[] ys = {0, 1, 4, 9, 16, 25, 36, 49, 64};
@@ -196,11 +191,7 @@ public final class DrawTest {
         int off = x.glyph();
         Shapes.contour(x, off, false, 0, 0, 65, 0, 65, 65, 0, 65);
         int told = x.glyph();
-        int[] middles = {33, 0, 65, 0, 65, 33, 65, 65, 33, 65, 0, 65, 0, 33, 0, 0};
-        for (int i = 0; i < 8; i++) {
-            x.point(told, middles[2 * i], middles[2 * i + 1], i % 2 == 0);
-        }
-        x.close(told);
+        Shapes.alternating(x, told, 33, 0, 65, 0, 65, 33, 65, 65, 33, 65, 0, 65, 0, 33, 0, 0);
         int sum = x.draw(told, 32, false);
         int[] greys = {x.pixel(0, 0), x.pixel(1, 0), x.pixel(1, 1), x.pixel(2, 1)};
         CHECK.due("11: the middles are on the outline, halves up", x.draw(off, 32, false), sum);
@@ -304,12 +295,7 @@ public final class DrawTest {
     /** Fitted are the ends of the lines, those on a quadratic too, not the points of the outline. */
     private static void promise11FittedCorners() {
         TypeFoundry x = new TypeFoundry(1);
-        int a = x.glyph();
-        x.point(a, 0, 0, true);
-        x.point(a, 64, 0, false);
-        x.point(a, 64, 64, true);
-        x.point(a, 0, 64, true);
-        x.close(a);
+        int a = Shapes.roundedSquare(x);
         x.height(0);
         x.height(20);
         // The goals of 0 and 20 in 32: 0 and 32; y 1, 4, 9, 16 become 2, 6, 14, 26; from 20 on 12 are added.

@@ -49,6 +49,7 @@ public final class FaceTest {
         Set<String> publicNames = new HashSet<>();
         List<Method> others = new ArrayList<>();
         for (Method method : face.getDeclaredMethods()) {
+            atMostSevenParameters(method);
             if (Modifier.isPublic(method.getModifiers())) {
                 found.add(told(method));
                 publicNames.add(method.getName());
@@ -57,15 +58,9 @@ public final class FaceTest {
             }
         }
         CHECK.note("public methods", found.toString(), new TreeSet<>(Arrays.asList(METHODS)).toString());
-        for (Class<?> nested : face.getDeclaredClasses()) {
-            others.addAll(Arrays.asList(nested.getDeclaredMethods()));
-        }
         for (Method method : others) {
             CHECK.no("the name of " + method + " is a public one's", publicNames.contains(method.getName()));
-            CHECK.yes(method + " has at most seven parameters", method.getParameterCount() <= 7);
-            if (method.getDeclaringClass() == face) {
-                CHECK.yes(method + " is private", Modifier.isPrivate(method.getModifiers()));
-            }
+            CHECK.yes(method + " is private", Modifier.isPrivate(method.getModifiers()));
         }
     }
 
@@ -97,14 +92,20 @@ public final class FaceTest {
     }
 
     private static void inside(Class<?> face) {
-        CHECK.yes("at most twelve classes", face.getDeclaredClasses().length < 12);
         for (Class<?> nested : face.getDeclaredClasses()) {
-            CHECK.yes(nested + " is static", Modifier.isStatic(nested.getModifiers()));
             CHECK.no(nested + " is public", Modifier.isPublic(nested.getModifiers()));
+            CHECK.no(nested + " is protected", Modifier.isProtected(nested.getModifiers()));
             for (Field field : nested.getDeclaredFields()) {
                 staticIsFinal(field);
             }
+            for (Method method : nested.getDeclaredMethods()) {
+                atMostSevenParameters(method);
+            }
         }
+    }
+
+    private static void atMostSevenParameters(Method method) {
+        CHECK.yes(method + " has at most seven parameters", method.getParameterCount() <= 7);
     }
 
     private static void staticIsFinal(Field field) {

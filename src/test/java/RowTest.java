@@ -39,9 +39,7 @@ public final class RowTest {
     }
 
     private static void due(String what, TypeFoundry x, int[] text, int... want) {
-        for (int glyph : text) {
-            x.type(glyph);
-        }
+        Shapes.type(x, text);
         StringBuilder got = new StringBuilder();
         int size = x.shape();
         for (int i = 0; i < size; i++) {
@@ -198,9 +196,7 @@ public final class RowTest {
         x.pair(0, 1, -7);
         x.pair(1, 0, 3);
         x.pair(0, 0, 1000);
-        for (int glyph : new int[] {0, 1, 2, 0, 1, 0}) {
-            x.type(glyph);
-        }
+        Shapes.type(x, 0, 1, 2, 0, 1, 0);
         x.shape();
         int[] due = {0, 93, 113, 113, 206, 229, 329};
         for (int i = 0; i < due.length; i++) {
