@@ -196,32 +196,37 @@ public final class TermsTest {
         drawnAlike("the middle", x, 0, 1, 32, false);
     }
 
-    /** -15.5 goes up to -15 in y, seen when a height lifts all by 16; -0.5 goes up to 0 in x. */
+    /** Halves and whole numbers below 0: in y they are seen when a height lifts all by 16. */
     private static void halvesUpInTheMiddleBelow0() {
-        TypeFoundry x = new TypeFoundry(1);
-        x.height(-16);
-        Shapes.glyphs(x, 2);
-        x.point(0, 0, -16, true);
-        Shapes.open(x, 0, false, 512, -16, 1536, -15);
-        Shapes.contour(x, 0, true, 2048, -15, 2048, 100, 0, 100);
-        x.point(1, 0, 0, true);
-        x.point(1, 512, 0, false);
-        x.point(1, 1024, 1, true);
-        x.point(1, 1536, 1, false);
-        Shapes.contour(x, 1, true, 2048, 1, 2048, 116, 0, 116);
-        drawnAlike("a middle y below 0", x, 0, 1, 32, true);
-        TypeFoundry y = new TypeFoundry(1);
-        for (int glyph = 0; glyph < 2; glyph++) {
-            y.glyph();
-            Shapes.open(y, glyph, true, 0, 0, 500, 0, 500, 1000, 64, 1000);
-            y.point(glyph, 0, 600, false);
-            if (glyph == 1) {
-                y.point(glyph, 0, 500, true);
-            }
-            y.point(glyph, -1, 400, false);
-            y.close(glyph);
+        int[][] yAndMiddleOfItAndMinus16 = {{-15, -15}, {-14, -15}, {-13, -14}};
+        for (int[] row : yAndMiddleOfItAndMinus16) {
+            TypeFoundry x = new TypeFoundry(1);
+            x.height(-16);
+            Shapes.glyphs(x, 2);
+            x.point(0, 0, -16, true);
+            Shapes.open(x, 0, false, 512, -16, 1536, row[0]);
+            Shapes.contour(x, 0, true, 2048, row[0], 2048, 100, 0, 100);
+            Shapes.open(x, 1, true, 0, 0);
+            Shapes.open(x, 1, false, 512, 0);
+            Shapes.open(x, 1, true, 1024, row[1] + 16);
+            Shapes.open(x, 1, false, 1536, row[0] + 16);
+            Shapes.contour(x, 1, true, 2048, row[0] + 16, 2048, 116, 0, 116);
+            drawnAlike("the middle y of -16 and " + row[0], x, 0, 1, 32, true);
         }
-        drawnAlike("a middle x below 0", y, 0, 1, 128, false);
+        int[][] xAndMiddleOfItAnd0 = {{-1, 0}, {-2, -1}, {-3, -1}};
+        for (int[] row : xAndMiddleOfItAnd0) {
+            TypeFoundry x = new TypeFoundry(1);
+            for (int glyph = 0; glyph < 2; glyph++) {
+                x.glyph();
+                Shapes.open(x, glyph, true, 0, 0, 500, 0, 500, 1000, 64, 1000);
+                Shapes.open(x, glyph, false, 0, 600);
+                if (glyph == 1) {
+                    Shapes.open(x, glyph, true, row[1], 500);
+                }
+                Shapes.contour(x, glyph, false, row[0], 400);
+            }
+            drawnAlike("the middle x of 0 and " + row[0], x, 0, 1, 64, false);
+        }
     }
 
     /** The seven points are told out by hand. */
@@ -268,7 +273,7 @@ public final class TermsTest {
         Shapes.contour(y, 0, true, 2, 0, 500, 0, 500, 1024);
         Shapes.contour(y, 1, true, 64, 1024, 42, 896, 23, 768, 9, 640, 0, 512, -6, 384, -8, 256, -5, 128, 2, 0, 500, 0,
             500, 1024);
-        drawnAlike("x below 0 on a quadratic", y, 0, 1, 128, false);
+        drawnAlike("x below 0 on a quadratic", y, 0, 1, 64, false);
     }
 
     // PIXELS
@@ -301,12 +306,18 @@ public final class TermsTest {
             new int[] {0, 1, grey(2048 - 32 * 20)}, new int[] {1, 0, grey(2048 - 12 * 7)});
     }
 
-    /** At y 32 the line is at x -0.5, that is 0; so it passes none of the lower pixels and half of the upper one. */
+    /**
+     * At y 32 the lines are at x -0.5, -1, -1.5 and -2, that is 0, -1, -1 and -2; from there they are at x 0 at y 32,
+     * 33, 33 and 34, and rise that much less in the upper pixel.
+     */
     private static void cutAtYBelow0HalvesUp() {
-        TypeFoundry x = new TypeFoundry(1);
-        Shapes.polygon(x, -33, 0, 32, 64, -33, 64);
-        CHECK.answer("cut at -0.5", x, Call.draw(0, 32, false), 128);
-        CHECK.answer("cut at -0.5", x, Call.pixel(0, 1), 128);
+        int[][] fromAndGrey = {{-33, grey(32 * 32)}, {-34, grey(31 * 32)}, {-35, grey(31 * 32)}, {-36, grey(30 * 32)}};
+        for (int[] row : fromAndGrey) {
+            TypeFoundry x = new TypeFoundry(1);
+            Shapes.polygon(x, row[0], 0, 32, 64, row[0], 64);
+            CHECK.answer("cut below 0, from " + row[0], x, Call.draw(0, 32, false), row[1]);
+            CHECK.answer("cut below 0, from " + row[0], x, Call.pixel(0, 1), row[1]);
+        }
     }
 
     /** At x 32 the lines are at y 15.5, that is 16, whichever way they go. */
