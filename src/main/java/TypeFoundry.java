@@ -321,11 +321,11 @@ public final class TypeFoundry {
         final Part[] parts = new Part[MOST_PARTS];
         int points;
         int contours;
-        int partCount;
         int depth;
         boolean locked;
         private final int masters;
         private int closedPoints;
+        private int partCount;
         // A part is locked, so what it brings to the outline never changes and is summed up once.
         private int partPoints;
         private int partContours;
@@ -434,8 +434,10 @@ public final class TypeFoundry {
                 return;
             }
             addContours(glyph, blend);
-            for (int i = 0; i < glyph.partCount; i++) {
-                Part part = glyph.parts[i];
+            for (Part part : glyph.parts) {
+                if (part == null) {
+                    return;
+                }
                 int first = contours;
                 gather(part.source, blend, level + 1);
                 turnAndShift(first, part);
@@ -791,6 +793,10 @@ public final class TypeFoundry {
                 && isOf(glyphs, after, afterLength) && within(output, 0, glyphs - 1);
         }
 
+        boolean isLongerThan(Rule other) {
+            return other == null || inputLength > other.inputLength;
+        }
+
         boolean fits(int[] row, int size, int at) {
             int behind = at + inputLength;
             return at >= beforeLength && behind + afterLength <= size
@@ -879,8 +885,7 @@ public final class TypeFoundry {
             Rule best = null;
             for (int i = 0; i < ruleCount; i++) {
                 Rule next = rules[i];
-                boolean isLonger = best == null || next.inputLength > best.inputLength;
-                if (next.lookup == lookup && isLonger && next.fits(row, rowSize, at)) {
+                if (next != null && next.lookup == lookup && next.isLongerThan(best) && next.fits(row, rowSize, at)) {
                     best = next;
                 }
             }
