@@ -18,6 +18,7 @@ public final class DrawEdgesTest {
         p11IfThereIsNoSuchSide();
         p11OfAnEmptyOutline();
         p11OfAFullOutline();
+        p11TheOutlineAsItIsInTheInstance();
         p12IfThereIsNoneSuch();
         p12IfNothingWasDrawn();
         p12AsItWasDrawnLast();
@@ -230,6 +231,57 @@ public final class DrawEdgesTest {
         CHECK.answer("11: within", x, Call.pixel(4, 4), 255);
         CHECK.answer("11: within its own", x, Call.pixel(0, 0), 255);
         CHECK.answer("11: without", x, Call.pixel(7, 7), 0);
+    }
+
+    /**
+     * A glyph composed of another one, turned each way, is drawn as one that has the points of its outline: so it is
+     * rounded, gone through, and fitted where it stands, not where its component does.
+     */
+    private static void p11TheOutlineAsItIsInTheInstance() {
+        for (int turn = 0; turn < 8; turn++) {
+            for (int side : SIDES) {
+                drawnAsItsOutline(turn, side, false);
+                drawnAsItsOutline(turn, side, true);
+            }
+        }
+    }
+
+    private static void drawnAsItsOutline(int turn, int side, boolean fitted) {
+        TypeFoundry x = composed(turn);
+        Shapes.glyphs(x, 1);
+        for (int contour = 0; contour < 2; contour++) {
+            for (int k = 6 * contour; k < 6 * contour + 6; k++) {
+                x.point(2, x.outline(1, k, 0), x.outline(1, k, 1), x.outline(1, k, 2) == 1);
+            }
+            x.close(2);
+        }
+        String what = "11: turn " + turn + (fitted ? ", fitted" : "");
+        int sum = x.draw(2, side, fitted);
+        int[] greys = new int[100];
+        for (int i = 0; i < 100; i++) {
+            greys[i] = x.pixel(i % 10 * 5, i / 10 * 5);
+        }
+        CHECK.answer(what, x, Call.draw(1, side, fitted), sum);
+        for (int i = 0; i < 100; i++) {
+            CHECK.answer(what, x, Call.pixel(i % 10 * 5, i / 10 * 5), greys[i]);
+        }
+    }
+
+    /** Glyph 1: two contours of glyph 0, one of them off the outline all round, with halves everywhere. */
+    private static TypeFoundry composed(int turn) {
+        TypeFoundry x = new TypeFoundry(2);
+        Shapes.glyphs(x, 2);
+        Shapes.contour(x, 0, false, 301, 0, 430, 151, 300, 420, 11, 431, -120, 210, -21, 30);
+        Shapes.alternating(x, 0, -300, -301, -20, -400, 1, -221, 50, -37, -251, 24, -333, -88);
+        for (int point = 0; point < 12; point++) {
+            x.place(0, point, 1, 37 * point - 200, 300 - 21 * point);
+        }
+        x.instance(128, 0);
+        x.component(1, 0, 777, 901, turn);
+        for (int y : new int[] {300, 700, 1010, 1300}) {
+            x.height(y);
+        }
+        return x;
     }
 
     // Promise 12

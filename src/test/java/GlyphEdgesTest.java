@@ -419,6 +419,14 @@ public final class GlyphEdgesTest {
         own.component(1, forty, 0, 0, 0);
         own.component(1, forty, 0, 0, 0);
         CHECK.answer("6: 120 as one component", own, Call.component(2, 1, 0, 0, 0), Call.DONE);
+        TypeFoundry open = of(1, 1);
+        int some = Shapes.ofPoints(open, 30);
+        for (int i = 0; i < 10; i++) {
+            open.point(some, i, i, true);
+        }
+        for (int i = 0; i < 4; i++) {
+            CHECK.answer("6: an open contour's do not count", open, Call.component(0, some, 0, 0, 0), Call.DONE);
+        }
     }
 
     // Promise 7

@@ -127,14 +127,20 @@ public final class OutlineTest {
         }
     }
 
+    /** 0.5 and 2.5 go up to 1 and 3; then they are turned. */
     private static void promise9RoundedBeforeTurned() {
-        TypeFoundry x = new TypeFoundry(2);
-        int a = Shapes.polygon(x, 0, 0, 10, 0, 10, 10);
-        x.place(a, 0, 1, 1, 1);
-        int b = x.glyph();
-        x.component(b, a, 0, 0, 2);
-        x.instance(512, 0);
-        CHECK.due("9: a half goes up to 1, then to -1", x.outline(b, 0, 0), -1);
+        int[][] due = {{1, 3}, {-3, 1}, {-1, -3}, {3, -1}, {-1, 3}, {-3, -1}, {1, -3}, {3, 1}};
+        for (int turn = 0; turn < 8; turn++) {
+            TypeFoundry x = new TypeFoundry(2);
+            int a = Shapes.polygon(x, 0, 2, 10, 0, 10, 10);
+            x.place(a, 0, 1, 1, 3);
+            int b = x.glyph();
+            x.component(b, a, 0, 0, turn);
+            x.instance(512, 0);
+            int k = turn < 4 ? 0 : 2;
+            CHECK.due("9: a half goes up, then it is turned by " + turn + ": x", x.outline(b, k, 0), due[turn][0]);
+            CHECK.due("9: a half goes up, then it is turned by " + turn + ": y", x.outline(b, k, 1), due[turn][1]);
+        }
     }
 
     private static void promise9TurnsInTurns() {
@@ -150,7 +156,12 @@ public final class OutlineTest {
             CHECK.due("9: twice turned x", x.outline(c, k, 0), due[2 * k]);
             CHECK.due("9: twice turned y", x.outline(c, k, 1), due[2 * k + 1]);
         }
-        CHECK.due("9: width is its own", x.outline(c, -1, 2), 0);
+        x.advance(a, 0, 7);
+        CHECK.due("9: width is its own, none was told", x.outline(c, -1, 2), 0);
+        x.advance(b, 0, 60);
+        x.advance(c, 0, 500);
+        CHECK.due("9: width is its own", x.outline(c, -1, 2), 500);
+        CHECK.due("9: that of its component is", x.outline(b, -1, 2), 60);
         CHECK.due("9: depth", x.outline(c, -1, 3), 2);
     }
 
