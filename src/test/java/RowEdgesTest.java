@@ -26,6 +26,7 @@ public final class RowEdgesTest {
         p19IfThereIsNoneSuch();
         p19BehindAllOfIt();
         p19AllAsTheyAreNow();
+        p19OfTheRowNotOfTheText();
         p20NoneForAnotherWhat();
         p20OfAFullObject();
         CHECK.end();
@@ -391,6 +392,39 @@ public final class RowEdgesTest {
         x.rule(0, 0, 1, 0, 1);
         x.type(1);
         rowIs("19: the glyphs stay until the next shape()", x, 0, 1, 0);
+    }
+
+    /** Glyphs 0, 0 become 3, and 2 becomes 1: the x's are of these, whatever the text was and is. */
+    private static void p19OfTheRowNotOfTheText() {
+        TypeFoundry x = new TypeFoundry(1);
+        int[] widths = {10, 200, 3000, 4000};
+        Shapes.glyphs(x, widths.length);
+        for (int glyph = 0; glyph < widths.length; glyph++) {
+            x.advance(glyph, 0, widths[glyph]);
+            x.pair(glyph, glyph, 50 + glyph);
+            x.pair(0, glyph, 60 + glyph);
+            x.pair(glyph, 2, 70 + glyph);
+        }
+        x.pair(3, 1, 7);
+        x.pair(1, 3, 80);
+        x.rule(0, 0, 0x0101, 0, 3);
+        x.rule(1, 0, 0x03, 0, 1);
+        int[] xs = {0, 4000 + 7, 4207 + 51, 4458 + 80, 8538};
+        row(x, 0, 0, 2, 2, 0, 0);
+        rowIs("19: what rules put", x, 3, 1, 1, 3);
+        xsAre("19: x of what rules put", x, xs);
+        Shapes.type(x, 1, 2, 3, 0);
+        xsAre("19: x while another text is typed", x, xs);
+        row(x);
+        rowIs("19: of the other text", x, 1, 1, 3, 0);
+        xsAre("19: x of the other text", x, 0, 200 + 51, 451 + 80, 4531, 4541);
+    }
+
+    private static void xsAre(String what, TypeFoundry x, int... xs) {
+        CHECK.answer(what, x, Call.count(4), xs.length - 1);
+        for (int i = 0; i < xs.length; i++) {
+            CHECK.answer(what, x, Call.shaped(i, 1), xs[i]);
+        }
     }
 
     // Promise 20
